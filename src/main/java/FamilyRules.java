@@ -427,7 +427,7 @@ public final class FamilyRules {
         }
 
         private int addAxiom() {
-            return enter(new Global(count, AXIOM_ROLE, 0, 0, 0));
+            return count < MOST_GLOBALS ? enter(new Global(count, AXIOM_ROLE, 0, 0, 0)) : NONE;
         }
 
         private int addFamily(Term told, int parameters, int indices, int constructors) {
@@ -671,12 +671,12 @@ public final class FamilyRules {
         }
 
         /** Alls of the source from one on; what they bind stays together, so only parameters are lifted. */
-        private void writeAlls(int first, int count, int lift) {
+        private void writeAlls(int first, int count, int outer) {
             int all = first;
             for (int i = 0; i < count; i++) {
                 put(ALL, source.numberAt(all), 0);
                 int second = source.secondOf(all);
-                lift(parameters + i, 0, lift);
+                lift(parameters + i, 0, outer);
                 copy(all + 1, second);
                 all = second;
             }

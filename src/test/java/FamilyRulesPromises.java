@@ -605,6 +605,28 @@ public final class FamilyRulesPromises {
         due("the fourth", x.brings(2, 3), NONE);
     }
 
+    private static void size() {
+        FamilyRules x = new FamilyRules();
+        due("size(0) without a family", x.size(0), NONE);
+        x.family(tell(x, "s1"), 0, 2);
+        due("size(0) with none told", x.size(0), NONE);
+        x.constructor(1, tell(x, "g0"));
+        due("size(0) with one told", x.size(0), NONE);
+        due("refused", x.constructor(2, tell(x, "all_ all_ g0 g0 g0")), -2);
+        due("size(0) with one refused", x.size(0), NONE);
+        x.constructor(2, tell(x, "all_ g0 g0"));
+        int n = x.terms();
+        due("size(0)", x.size(0), 25);
+        due("size(0) again", x.size(0), 25);
+        due("size(1) of a constructor", x.size(1), NONE);
+        due("size(x.axiom())", x.size(x.axiom()), NONE);
+        due("terms()", x.terms(), n);
+        due("size of vec", vec().size(3), 65);
+        for (int far : FAR) {
+            due("size(far)", x.size(far), NONE);
+        }
+    }
+
     private static void sizeAndType() {
         FamilyRules x = nat();
         int n = x.terms();
@@ -663,6 +685,26 @@ public final class FamilyRulesPromises {
                 + "all32 v3 all99 @ @ @ g0 v4 v3 v0 @ @ v3 v1 v0";
         due("size of acc", x.size(0), due.split(" ").length);
         dueTerm("type of acc", x, x.type(0, 3), due);
+    }
+
+    /** Parameters in every place, and two recursive arguments behind another constructor. */
+    private static void typeWithTwoRecursive() {
+        FamilyRules x = new FamilyRules();
+        due("family", x.family(tell(x, "all1 s0 all2 s0 s0"), 1, 2), 0);
+        due("the first", x.constructor(1, tell(x, "all1 s0 @ @ g0 v0 v0")), 0);
+        due("the second", x.constructor(2, tell(x,
+                "all1 s0 all3 @ @ g0 v0 v0 all4 v1 all5 all6 v2 @ @ g0 v3 v1 @ @ g0 v3 v3")), 2);
+        String due = "all1 s0 all98 all2 s0 all_ @ @ g0 v1 v0 s4 "
+                + "all_ @ @ v0 v1 @ g1 v1 "
+                + "all_ all3 @ @ g0 v2 v2 all4 v3 all5 all6 v4 @ @ g0 v5 v1 "
+                + "all_ @ @ v4 v5 v2 all_ all6 v6 @ @ v6 v3 @ v2 v0 "
+                + "@ @ v6 v7 @ @ @ @ g2 v7 v4 v3 v2 "
+                + "all2 s0 all99 @ @ g0 v4 v0 @ @ v4 v1 v0";
+        int t = x.type(0, 4);
+        dueTerm("its type", x, t, due);
+        for (int i = 0; i < due.split(" ").length; i++) {
+            due("part(t, " + i + ", 2)", x.part(t, i, 2), 0);
+        }
     }
 
     /** A type that is counted, but has too many nodes to be made; one that just fits. */
@@ -788,8 +830,10 @@ public final class FamilyRulesPromises {
             due("part(t, " + i + ", 4)", x.part(t, i, 4), NONE);
             due("part(t, " + i + ", -1)", x.part(t, i, -1), NONE);
         }
-        due("part(t, 11, 0)", x.part(t, 11, 0), NONE);
-        due("part(t, -1, 0)", x.part(t, -1, 0), NONE);
+        for (int what = -1; what <= 4; what++) {
+            due("part(t, 11, " + what + ")", x.part(t, 11, what), NONE);
+            due("part(t, -1, " + what + ")", x.part(t, -1, what), NONE);
+        }
         due("part of no term", x.part(x.terms(), 0, 0), NONE);
         for (int far : FAR) {
             due("part(far, 0, 0)", x.part(far, 0, 0), NONE);
@@ -826,9 +870,12 @@ public final class FamilyRulesPromises {
         promise = 10;
         brings();
         bringsBeyondTheLimit();
+        promise = 11;
+        size();
         promise = 12;
         sizeAndType();
         typesWithParametersAndIndices();
+        typeWithTwoRecursive();
         typesBeyondTheLimit();
         promise = 13;
         terms();
