@@ -276,7 +276,7 @@ public final class FamilyRulesSentences {
             int own = part(t, 0, 3);
             for (int i = 0; i < own; i++) {
                 int kind = part(t, i, 0);
-                int number = kind == 4 ? 0 : part(t, i, 1);
+                int number = part(t, i, 1);
                 String name = number == NONE ? "_" : "" + number;
                 text.append(i == 0 ? "" : " ");
                 switch (kind) {
@@ -284,7 +284,7 @@ public final class FamilyRulesSentences {
                     case 1: text.append('g').append(number); break;
                     case 2: text.append('s').append(number); break;
                     case 3: text.append('r').append(number).append('.').append(part(t, i, 2)); break;
-                    case 4: text.append('@'); break;
+                    case 4: text.append(number == 0 ? "@" : "@" + number); break;
                     case 5: text.append("fun").append(name); break;
                     case 6: text.append("all").append(name); break;
                     default: text.append('?').append(kind);
@@ -1566,6 +1566,8 @@ public final class FamilyRulesSentences {
         dueTerm(x, x.type(0, 0), "all98 all_ g0 s0 all99 g0 @ v1 v0");
         Rules y = withAlls(1, 1, 0);
         dueTerm(y, y.type(0, 1), "all0 s0 all98 all_ @ g0 v0 s1 all99 @ g0 v1 @ v1 v0");
+        due(y.family(y.tell("all1 s0 all2 v0 s0"), 2, 0), 1);
+        dueTerm(y, y.type(1, 3), "all1 s0 all2 v0 all98 all_ @ @ g1 v1 v0 s3 all99 @ @ g1 v2 v1 @ v1 v0");
         Rules z = withAlls(1, 0, 0);
         dueTerm(z, z.type(0, 2), "all98 all0 s0 all_ @ g0 v0 s2 all0 s0 all99 @ g0 v0 @ @ v2 v1 v0");
     }
@@ -1600,14 +1602,14 @@ public final class FamilyRulesSentences {
         Rules x = withAlls(2, 1, 2);
         due(x.constructor(1, x.tell("all0 s0 @ @ g0 v0 v0")), 0);
         due(x.constructor(2, x.tell("all0 s0 all3 @ @ g0 v0 v0 all4 all5 v1 @ @ g0 v2 @ v1 v0 all6 v2 "
-                + "all7 @ @ g0 v3 @ v0 v2 @ @ g0 v4 @ v3 @ v2 @ v1 v0")), 3);
+                + "all7 @ @ g0 v3 @ v0 v2 @ @ g0 v4 @ v4 @ v3 @ v2 @ v1 v0")), 3);
         dueTerm(x, x.type(0, 8), "all0 s0 all98 all1 s0 all_ @ @ g0 v1 v0 s8 "
                 + "all_ @ @ v0 v1 @ g1 v1 "
                 + "all_ all3 @ @ g0 v2 v2 all4 all5 v3 @ @ g0 v4 @ v1 v0 all6 v4 all7 @ @ g0 v5 @ v0 v2 "
                 + "all_ @ @ v5 v6 v3 "
                 + "all_ all5 v7 @ @ v7 @ v5 v0 @ v4 v0 "
                 + "all_ @ @ v7 @ v3 v5 v2 "
-                + "@ @ v8 @ v6 @ v5 @ v4 v3 @ @ @ @ @ g2 v9 v6 v5 v4 v3 "
+                + "@ @ v8 @ v9 @ v6 @ v5 @ v4 v3 @ @ @ @ @ g2 v9 v6 v5 v4 v3 "
                 + "all1 s0 all99 @ @ g0 v4 v0 @ @ v4 v1 v0");
     }
 
